@@ -1,0 +1,74 @@
+import java.io.IOException;
+import java.lang.reflect.Modifier;
+import java.nio.file.Files;
+import java.nio.file.Path;
+import java.util.ArrayList;
+import java.util.List;
+import java.util.regex.Matcher;
+import java.util.regex.Pattern;
+
+/** The rules of LANGUAGE.md that can be seen by reading the source or asking the class. */
+public final class LanguageTest {
+    private static final Path SOURCE = Path.of("src/main/java/RiverHead.java");
+    private static final int FACE = 55;
+    private static final String[] BANNED = {
+        "throw", "try", "catch", "synchronized", "assert", "import", "package", "Exact", "->", "::", "System\\.(?!arraycopy)",
+        "Math\\.(?!abs|max|min)", "\\bnew \\w+\\(\\) \\{", "hashCode", "protected", "NaN", "float", "double", "Random"};
+
+    public static void main(String[] args) throws IOException {
+        String source = Files.readString(SOURCE);
+        String code = source.replaceAll("(?s)/\\*.*?\\*/", "").replaceAll("//[^\n]*", "");
+        for (String banned : BANNED) {
+            boolean found = Pattern.compile(Character.isLetter(banned.charAt(0)) ? "\\b" + banned : banned).matcher(code).find();
+            Due.due("the source has " + banned, found ? 1 : 0, 0);
+        }
+        Due.due("all signs are ASCII", source.chars().allMatch(c -> c < 128) ? 1 : 0, 1);
+        methods(code);
+        face();
+        Due.end();
+    }
+
+    private static void methods(String code) {
+        Matcher head = Pattern.compile("(?m)^( {4}| {8})(?:[\\w\\[\\]]+ )*(\\w+)\\(([^)]*)\\) \\{$").matcher(code);
+        int n = 0;
+        while (head.find()) {
+            if (head.group(2).equals("if") || head.group(2).equals("for") || head.group(2).equals("switch")) {
+                continue;
+            }
+            n++;
+            int end = code.indexOf("\n" + head.group(1) + "}\n", head.end());
+            long lines = code.substring(head.start(), end).lines().count();
+            Due.due(head.group(2) + " is short", lines <= 60 ? 1 : 0, 1);
+            Due.due(head.group(2) + " has few parameters", head.group(3).split(",").length <= 7 ? 1 : 0, 1);
+        }
+        Due.due("methods were found", n > 150 ? 1 : 0, 1);
+    }
+
+    private static void face() {
+        Class<?> c = RiverHead.class;
+        Due.due("public and final", c.getModifiers(), Modifier.PUBLIC | Modifier.FINAL);
+        List<String> open = new ArrayList<>();
+        List<String> hidden = new ArrayList<>();
+        for (var method : c.getDeclaredMethods()) {
+            if (Modifier.isPublic(method.getModifiers())) {
+                open.add(method.getName());
+            } else {
+                hidden.add(method.getName());
+                Due.due(method + " is private", Modifier.isPrivate(method.getModifiers()) ? 1 : 0, 1);
+            }
+        }
+        Due.due("methods of the face", open.size(), FACE - 1);
+        Due.due("constructors of the face", c.getConstructors().length, 1);
+        hidden.retainAll(open);
+        Due.due("private methods with a public name", hidden.size(), 0);
+        for (var field : c.getDeclaredFields()) {
+            Due.due(field + " is private", Modifier.isPrivate(field.getModifiers()) ? 1 : 0, 1);
+        }
+        Due.due("classes", c.getDeclaredClasses().length + 1 <= 12 ? 1 : 0, 1);
+        for (Class<?> inside : c.getDeclaredClasses()) {
+            Due.due(inside + " is static", Modifier.isStatic(inside.getModifiers()) ? 1 : 0, 1);
+            long fields = List.of(inside.getDeclaredFields()).stream().filter(f -> !Modifier.isStatic(f.getModifiers())).count();
+            Due.due(inside + " has few fields", fields <= 20 ? 1 : 0, 1);
+        }
+    }
+}
