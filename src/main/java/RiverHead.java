@@ -262,7 +262,7 @@ public final class RiverHead {
             case 3: return rows.owner[row];
             case 4: return rows.day[row];
             case 5: return rows.from[row];
-            case 6: return rows.struck[row] ? 1 : 0;
+            case 6: return rows.isStruck(row) ? 1 : 0;
             case 7: return rows.isUnder(row, DRAWN) ? rows.b[row] : finding(KIND);
             case 8: return rows.isUnder(row, BOIL) ? rows.leastHeight(row) : finding(KIND);
             default: return rows.isUnder(row, BOIL) ? rows.greatestHeight(row) : finding(KIND);
@@ -273,9 +273,11 @@ public final class RiverHead {
         if (!isRow(row)) {
             return finding(BEYOND);
         }
-        boolean was = world.rows.struck[row];
-        world.rows.struck[row] = is;
-        return was == is ? 0 : 1;
+        if (world.rows.isStruck(row) == is) {
+            return 0;
+        }
+        world.rows.turnStruck(row);
+        return 1;
     }
 
     public int mean(int tongue, int word, int v) {
@@ -460,9 +462,9 @@ public final class RiverHead {
         Rows rows = world.rows;
         int party = rows.owner[row];
         long before = verdictsIn(party);
-        rows.struck[row] = !rows.struck[row];
+        rows.turnStruck(row);
         long changed = before ^ verdictsIn(party);
-        rows.struck[row] = !rows.struck[row];
+        rows.turnStruck(row);
         return (int) ((changed | changed >>> CLAIMS) & (1L << CLAIMS) - 1);
     }
 
@@ -662,7 +664,7 @@ public final class RiverHead {
         switch (what) {
             case 0: return world.land.size;
             case 1: return world.rows.size;
-            case 2: return world.rows.struckOnes();
+            case 2: return Long.bitCount(world.rows.struck);
             case 3: return world.laws.size;
             case 4: return world.claims.size;
             case 5: return world.day;
@@ -1051,7 +1053,8 @@ public final class RiverHead {
         final int[] day = new int[ROWS];
         /** The day from which each row is known. */
         final int[] from = new int[ROWS];
-        final boolean[] struck = new boolean[ROWS];
+        /** The struck rows, as bits. */
+        long struck;
         int size;
         final int[] meaning = new int[TONGUES * WORDS];
 
@@ -1062,8 +1065,8 @@ public final class RiverHead {
             System.arraycopy(other.owner, 0, owner, 0, ROWS);
             System.arraycopy(other.day, 0, day, 0, ROWS);
             System.arraycopy(other.from, 0, from, 0, ROWS);
-            System.arraycopy(other.struck, 0, struck, 0, ROWS);
             System.arraycopy(other.meaning, 0, meaning, 0, TONGUES * WORDS);
+            struck = other.struck;
             size = other.size;
         }
 
@@ -1074,7 +1077,6 @@ public final class RiverHead {
             owner[size] = party;
             day[size] = today;
             from[size] = knownFrom;
-            struck[size] = false;
             size++;
             return size - 1;
         }
@@ -1083,9 +1085,17 @@ public final class RiverHead {
             return sort == PLAIN || kind[row] == sort || (sort == DRAWN && kind[row] == COPIED);
         }
 
+        boolean isStruck(int row) {
+            return hasBit(struck, row);
+        }
+
+        void turnStruck(int row) {
+            struck ^= 1L << row;
+        }
+
         /** Whether a row is known on a day and not struck. */
         boolean counts(int row, int asOf) {
-            return from[row] <= asOf && !struck[row];
+            return from[row] <= asOf && !isStruck(row);
         }
 
         int inBookOf(int party) {
@@ -1098,20 +1108,10 @@ public final class RiverHead {
             return n;
         }
 
-        int struckOnes() {
-            int n = 0;
-            for (int row = 0; row < size; row++) {
-                if (struck[row]) {
-                    n++;
-                }
-            }
-            return n;
-        }
-
         int knownOn(int asOf, boolean onlyStruck) {
             int n = 0;
             for (int row = 0; row < size; row++) {
-                if (from[row] <= asOf && (struck[row] || !onlyStruck)) {
+                if (from[row] <= asOf && (isStruck(row) || !onlyStruck)) {
                     n++;
                 }
             }
@@ -1181,7 +1181,7 @@ public final class RiverHead {
         long drawnOn(int map) {
             long set = 0;
             for (int row = 0; row < size; row++) {
-                if (isUnder(row, DRAWN) && !struck[row] && b[row] == map) {
+                if (isUnder(row, DRAWN) && !isStruck(row) && b[row] == map) {
                     set |= 1L << a[row];
                 }
             }
@@ -1613,7 +1613,8 @@ public final class RiverHead {
     private static final class Tolls {
         /** The least cost by cell; -1: there is no way. */
         final int[] cost = new int[CELLS];
-        private final boolean[] settled = new boolean[CELLS];
+        /** The cells whose least cost is sure, as bits. */
+        private long settled;
         private final int[] toll = new int[KINGS];
 
         void spread(World world, int from) {
@@ -1622,15 +1623,15 @@ public final class RiverHead {
             }
             for (int cell = 0; cell < CELLS; cell++) {
                 cost[cell] = -1;
-                settled[cell] = false;
             }
+            settled = 0;
             cost[from] = 0;
             for (int i = 0; i < CELLS; i++) {
                 int cell = cheapestOpen();
                 if (cell < 0) {
                     return;
                 }
-                settled[cell] = true;
+                settled |= 1L << cell;
                 leave(cell, world.land.lord);
             }
         }
@@ -1638,7 +1639,7 @@ public final class RiverHead {
         private int cheapestOpen() {
             int best = -1;
             for (int cell = 0; cell < CELLS; cell++) {
-                if (!settled[cell] && cost[cell] >= 0 && (best < 0 || cost[cell] < cost[best])) {
+                if (!hasBit(settled, cell) && cost[cell] >= 0 && (best < 0 || cost[cell] < cost[best])) {
                     best = cell;
                 }
             }

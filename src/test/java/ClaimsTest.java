@@ -75,12 +75,35 @@ public final class ClaimsTest {
             x.claim(0, i);
         }
         Due.due("of many claims", x.fall(0), 0xFFFFF & ~0xC);
+        RiverHead y = new RiverHead();
+        y.high(0, 4000);
+        y.row(1, 0, 0, 0);
+        y.row(0, 2, 2, 0);
+        y.claim(0, 5);
+        y.claim(1, 0);
+        y.claim(1, 5);
+        Due.due("what must be only can be, and what can't be can", y.fall(1), 6);
+        Due.due("a claim of another book stays", y.fall(0), 0);
+        y.strike(1, true);
+        Due.due("and the other way", y.fall(1), 6);
+        RiverHead z = new RiverHead();
+        z.row(0, 3, 200, 0);
+        z.row(0, 3, 201, 0);
+        z.claim(0, 16);
+        Due.due("what can be can be still", z.fall(0), 0);
+        z.row(0, 3, 300, 0);
+        Due.due("what can't be can't be still", z.fall(1), 0);
+        Due.due("what can't be can be", z.fall(2), 1);
     }
 
     private static void next() {
         Due.promise(40);
         RiverHead x = new RiverHead();
         Due.due("no claims", x.next(), Due.NONE);
+        RiverHead one = new RiverHead();
+        one.row(0, 0, 0, 0);
+        one.claim(0, 5);
+        Due.due("the first claim", one.next(), 0);
         x.row(0, 3, 100, 0);
         x.row(1, 3, 101, 0);
         x.row(2, 3, 500, 0);
@@ -214,6 +237,10 @@ public final class ClaimsTest {
         x.sheet(1, 64, 1);
         x.write(1, 0, 47);
         Due.due("the first one is anywhere", x.judge(1, 1), 1);
+        x.write(1, 0, 0);
+        Due.due("in cell 0, too", x.judge(1, 1), 1);
+        x.write(1, 0, 48);
+        Due.due("not in cell 48", x.judge(1, 1), 0);
         x.write(1, 0, 1L << 32);
         Due.due("a number too great", x.judge(1, 1), 0);
     }

@@ -160,6 +160,7 @@ public final class DaysTest {
         x.tick(30);
         Due.due("missing", x.check(0, 0), Due.MISSING);
         Due.due("none ahead of missing", x.check(1, 0), Due.NONE);
+        Due.due("the last month", x.check(119, 0), Due.NONE);
         Due.due("check(120, 0)", x.check(120, 0), Due.BEYOND);
         Due.due("check(-1, 0)", x.check(-1, 0), Due.BEYOND);
         Due.due("check(0, 4)", x.check(0, 4), Due.BEYOND);
@@ -217,8 +218,10 @@ public final class DaysTest {
         Due.due("n -1", x.sheet(0, 8, -1), Due.SIZE);
         Due.due("n 41", x.sheet(0, 8, 41), Due.BEYOND);
         x.sheet(1, 16, 2);
+        x.write(1, 0, 76);
         x.write(1, 1, 77);
         Due.due("made anew", x.sheet(1, 16, 2), 2);
+        Due.due("all 0", x.write(1, 0, 0), 0);
         Due.due("all 0", x.write(1, 1, 0), 0);
         Due.due("sizes counted", x.status(6), 1);
     }
@@ -265,6 +268,7 @@ public final class DaysTest {
         Due.due("there", x.write(1, 1, 3), 3);
         Due.due("there", x.write(1, 2, 4), 4);
         Due.due("nothing at the end", x.copy(0, 5, 1, 3, 0), 0);
+        Due.due("all of a sheet", x.copy(1, 0, 1, 0, 3), 3);
         Due.due("copy(4, ..)", x.copy(4, 0, 0, 0, 0), Due.BEYOND);
         Due.due("copy(.., 4, ..)", x.copy(0, 0, 4, 0, 0), Due.BEYOND);
         Due.due("copy(-1, ..)", x.copy(-1, 0, 0, 0, 0), Due.BEYOND);

@@ -147,6 +147,10 @@ public final class LandTest {
         Due.due("the least link counts", x.mouth(0, 1), 11);
         Due.due("below the fork", x.mouth(4, 1), 23);
         Due.due("no link", x.mouth(40, 1), 40);
+        Due.due("no link in this month", seasonal().mouth(0, 2), 0);
+        RiverHead turned = seasonal();
+        turned.mouth(0, 1);
+        Due.due("nor any from a month asked before", turned.mouth(0, 2), 0);
         Due.due("mouth(48, 0)", x.mouth(48, 0), Due.BEYOND);
         Due.due("mouth(-1, 0)", x.mouth(-1, 0), Due.BEYOND);
         Due.due("mouth(0, 12)", x.mouth(0, 12), Due.BEYOND);
@@ -157,6 +161,13 @@ public final class LandTest {
         Due.due("run(23, 0)", x.run(23, 0), 0);
         Due.due("run(48, 0)", x.run(48, 0), Due.BEYOND);
         Due.due("run(0, 12)", x.run(0, 12), Due.BEYOND);
+    }
+
+    private static RiverHead seasonal() {
+        RiverHead x = new RiverHead();
+        x.high(0, 1);
+        x.link(0, 1, 2);
+        return x;
     }
 
     private static void above() {
@@ -201,8 +212,14 @@ public final class LandTest {
         Due.due("longest without a clause", x.source(17, 1), 2);
         Due.due("of like ones the least", x.source(17, 0), 8);
         Due.due("by itself", x.source(47, 0), 47);
+        x.high(0, 5);
+        x.link(0, 1, 4095);
+        Due.due("from cell 0", x.source(1, 0), 0);
         Due.due("a text", Due.read(x, "source most", 0, 0), 0);
         Due.due("most, the least of like ones", x.source(17, 1), 8);
+        x.water(17, 71);
+        Due.due("most, itself", x.source(17, 1), 17);
+        x.water(17, 0);
         Due.due("a later text", Due.read(x, "source highest in 1-2;source most in 0-0", 0, 9), 1);
         x.water(9, 71);
         Due.due("most still, as the open month is 0", x.source(17, 1), 9);

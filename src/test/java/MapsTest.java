@@ -48,6 +48,7 @@ public final class MapsTest {
         Due.due("fewer", x.slips(4, 2), 1);
         Due.due("not below it", x.slips(2, 2), Due.BEYOND);
         Due.due("above it", x.slips(2, 3), Due.BEYOND);
+        Due.due("the last map", x.slips(8, 7), 0);
         Due.due("map 9", x.slips(9, 0), Due.BEYOND);
         Due.due("map -1", x.slips(-1, -1), Due.BEYOND);
         Due.due("from -2", x.slips(2, -2), Due.BEYOND);
@@ -56,6 +57,7 @@ public final class MapsTest {
         Due.due("of the one before", x.copied(2), 1);
         Due.due("of the least of like ones", x.copied(4), 1);
         Due.due("an empty one of the least empty one", x.copied(6), 0);
+        Due.due("the last map", x.copied(8), 0);
         Due.due("map 9", x.copied(9), Due.BEYOND);
         Due.due("map -1", x.copied(-1), Due.BEYOND);
         Due.promise(35);
@@ -103,5 +105,9 @@ public final class MapsTest {
         x.strike(2, true);
         x.row(3, 1, 2, 0);
         Due.due("there two steps later", x.shore(20), Due.NONE);
+        RiverHead y = new RiverHead();
+        y.row(2, 0, 0, 0);
+        y.row(0, 5, 2000, 0);
+        Due.due("borne out by row 0", y.shore(20), Due.NONE);
     }
 }

@@ -149,6 +149,9 @@ public final class RowsTest {
         x.link(20, 12, 8);
         Due.due("rivers", x.fits(2), Due.cells(3, 20));
         x.mean(3, 5, 2);
+        x.water(0, 50);
+        Due.due("a lake in cell 0", x.fits(2), Due.cells(0));
+        x.water(0, 0);
         x.water(7, 50);
         x.water(8, 49);
         Due.due("lakes", x.fits(2), Due.cells(7));

@@ -139,6 +139,8 @@ public final class TextsTest {
         Due.due("price(-1)", x.price(-1), Due.BEYOND);
         x.tick(30);
         Due.due("no bar in month 1", x.price(3), 8);
+        x.tick(300);
+        Due.due("without months in month 11, too", x.price(3), 8);
     }
 
     private static void path() {
