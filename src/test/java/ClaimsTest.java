@@ -86,6 +86,14 @@ public final class ClaimsTest {
         Due.due("a claim of another book stays", y.fall(0), 0);
         y.strike(1, true);
         Due.due("and the other way", y.fall(1), 6);
+        RiverHead march = new RiverHead();
+        march.high(20, 4000);
+        march.row(0, 2, 2, 0);
+        march.row(0, 1, 101, 0);
+        march.claim(1, 20);
+        march.claim(1, 21);
+        march.claim(0, 20);
+        Due.due("what must be can't be, and the other way", march.fall(1), 3);
         RiverHead z = new RiverHead();
         z.row(0, 3, 200, 0);
         z.row(0, 3, 201, 0);

@@ -83,7 +83,7 @@ public final class TextsTest {
             "source most in 12^-12", "source most in 12^", "source most in 100^-2", "source most in 123^4-5",
             "source most in 3-2^", "source most in 3-2^;bar 1", "source most in 3-12^", "source most in 3-12^;",
             "source most in 3-004^5", "source most in 0-999^9", "source most in 3-4^ ", "source most in 3-4^x",
-            "pass^", "pass ^", "pass ^6", "pass 1^", "pass 1^1 3", "pass 1 ^", "pass 1 ^x", "pass 1 ^;", "pass 1 123^4",
+            "pass^", "pass ^", "pass ^6", "pass 1^", "pass 1^1 3", "pass 1 ^", "pass 1 ^x", "pass 1 ^;", "pass 1 ^:", "pass 1 ^/", "pass ^/", "bar 1 in 1-^:", "pass 1 123^4",
             "pass 1 12^x", "pass 1 12 ^3", "pass 1 12^-", "b^ra 1", "bar ^", "bar ^6", "bar 1^1", "bar 1 ^",
             "bar 1 in 5-5^ in 5-5", "bar 1;^", "bar 1;^;bar 2", "bar 1^, bar 2", "bar 1; bar".replace("; ", ";^ "),
             "bar 1;bar 2;bar 3;bar 4;bar 5^;", "bar 1;bar 2;bar 3;bar 4;bar 5^;bar 0",
