@@ -220,11 +220,11 @@ public final class RiverHead {
         if (!isParty(party) || !isDay(day)) {
             return finding(BEYOND);
         }
-        int was = world.camp.right[party];
-        if (was < day - 1) {
+        if (!world.camp.isRightOn(party, day)) {
             return finding(STATE);
         }
-        world.camp.right[party] = day - 1;
+        int was = world.camp.right[party];
+        world.camp.haltWatch(party, day);
         return was;
     }
 
@@ -1039,8 +1039,19 @@ public final class RiverHead {
             fever[p]++;
             if (fever[p] >= 20) {
                 fever[p] = 0;
-                right[p] = Math.min(right[p], day - 1);
+                if (isRightOn(p, day)) {
+                    haltWatch(p, day);
+                }
             }
+        }
+
+        boolean isRightOn(int p, int day) {
+            return right[p] >= day;
+        }
+
+        /** A watch that stops on a day is not right on that day any more. */
+        void haltWatch(int p, int day) {
+            right[p] = day - 1;
         }
     }
 

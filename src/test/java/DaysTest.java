@@ -89,6 +89,10 @@ public final class DaysTest {
         Due.due("at 20 none", x.party(0, 2), 0);
         Due.due("stopped on day 109", x.party(0, 5), 108);
         Due.due("stopped before", x.party(2, 5), 94);
+        Due.promise(15);
+        Due.due("stopped by fever on that day already", x.stop(0, 109), Due.STATE);
+        Due.due("stopped on the day before it", x.stop(3, 108), 108);
+        Due.promise(44);
         x.tick(70);
         Due.due("month 5 to its end", x.party(0, 2), 10);
         Due.due("stopped once", x.party(0, 5), 108);

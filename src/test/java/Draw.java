@@ -10,7 +10,7 @@ final class Draw {
     private static final String[] ACTS = {
         "high cH", "water cW", "king ck", "link ccM", "link eeM", "link eeM", "mouth cm", "mouth cm", "run cm", "above cm",
         "above cm", "joined cc", "joined cc", "source cm", "source cm", "goods pg", "set pc", "go pc", "party pw",
-        "stop pd", "row pK#l", "row pK#l", "as rK", "of rw", "strike r!", "strike r!", "mean tow", "mean tow", "fits r",
+        "stop pD", "row pK#l", "row pK#l", "as rK", "of rw", "strike r!", "strike r!", "mean tow", "mean tow", "fits r",
         "where rd", "where rd", "where rd", "count rd", "same rr", "same rr", "feed ih", "text yy", "wipe ", "why k",
         "why k", "price k", "path cc", "path cc", "pass cg", "map a", "slips aa", "copied a", "guesses ", "shore c",
         "shore c", "shore c", "claim rc", "call C", "call C", "fall r", "fall r", "fall r", "next ", "next ", "plan R",
@@ -106,6 +106,8 @@ final class Draw {
             case 'g': return random.nextInt(40);
             case 'w': return random.nextInt(10);
             case 'd': return random.nextInt(4) == 0 ? random.nextInt(3600) : random.nextInt(200);
+            // Few days, so that some come again.
+            case 'D': return random.nextInt(4) == 0 ? random.nextInt(3600) : 20 * random.nextInt(10);
             case 'K': return random.nextInt(7);
             case 'l': return random.nextInt(2) == 0 ? 0 : random.nextInt(40);
             case 'r': return random.nextInt(random.nextInt(4) == 0 ? 42 : 12);

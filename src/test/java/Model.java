@@ -291,12 +291,11 @@ final class Model {
         if (!in(party, 0, 4) || !in(day, 0, 3599)) {
             return finding(BEYOND);
         }
-        int before = day - 1;
-        if (k.right[party] < before) {
+        if (k.right[party] < day) {
             return finding(STATE);
         }
         int was = k.right[party];
-        k.right[party] = before;
+        k.right[party] = day - 1;
         return was;
     }
 

@@ -71,11 +71,15 @@ public final class PartiesTest {
         Due.due("stop(3, 50)", x.stop(3, 50), 3598);
         Due.due("right up to", x.party(3, 5), 49);
         Due.due("stopped later", x.stop(3, 51), Due.STATE);
-        Due.due("stopped on that day already", x.stop(3, 50), 49);
-        Due.due("stop(3, 0)", x.stop(3, 0), 49);
+        Due.due("stopped on that day already", x.stop(3, 50), Due.STATE);
+        Due.due("right as before", x.party(3, 5), 49);
+        Due.due("both told", x.status(4), 2);
+        Due.due("on the last day on which it is right", x.stop(3, 49), 49);
+        Due.due("stop(3, 0)", x.stop(3, 0), 48);
         Due.due("right on no day", x.party(3, 5), -1);
         Due.due("stop(3, 1)", x.stop(3, 1), Due.STATE);
-        Due.due("stop(3, 0) again", x.stop(3, 0), -1);
+        Due.due("stop(3, 0) again", x.stop(3, 0), Due.STATE);
+        Due.due("right on no day still", x.party(3, 5), -1);
         Due.due("stop(5, 0)", x.stop(5, 0), Due.BEYOND);
         Due.due("stop(-1, 0)", x.stop(-1, 0), Due.BEYOND);
         Due.due("beyond ahead of state", x.stop(3, 3600), Due.BEYOND);
