@@ -25,7 +25,30 @@ public final class LanguageTest {
         Due.due("all signs are ASCII", source.chars().allMatch(c -> c < 128) ? 1 : 0, 1);
         methods(code);
         face();
+        faceAsTold();
         Due.end();
+    }
+
+    /** "The public face": each line of the document's class is there, with the same types. */
+    private static void faceAsTold() throws IOException {
+        String document = Files.readString(Path.of("../shared/DOC.md"));
+        Matcher line = Pattern.compile("(?m)^    public (int|long) (\\w+)\\((.*)\\);$").matcher(document);
+        int n = 0;
+        while (line.find()) {
+            n++;
+            String told = line.group(1) + " " + line.group(2) + "(" + line.group(3).replaceAll(" \\w+(?=,|$)", "") + ")";
+            int found = 0;
+            for (var method : RiverHead.class.getDeclaredMethods()) {
+                List<String> types = new ArrayList<>();
+                for (Class<?> type : method.getParameterTypes()) {
+                    types.add(type.getName());
+                }
+                String is = method.getReturnType() + " " + method.getName() + "(" + String.join(", ", types) + ")";
+                found += is.equals(told) && Modifier.isPublic(method.getModifiers()) ? 1 : 0;
+            }
+            Due.due(told + " is in the face", found, 1);
+        }
+        Due.due("acts of the document's face", n, FACE - 1);
     }
 
     private static void methods(String code) {
