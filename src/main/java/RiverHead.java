@@ -428,6 +428,7 @@ public final class RiverHead {
         if (!isCell(cell)) {
             return finding(BEYOND);
         }
+        traceAll();
         int map = world.rows.firstMapWith(cell);
         if (map < 0 || isBorneOut(cell)) {
             return finding(NONE);
@@ -710,8 +711,8 @@ public final class RiverHead {
         }
     }
 
+    /** Asks the spots of all books, which have been traced before. */
     private boolean isBorneOut(int cell) {
-        traceAll();
         Rows rows = world.rows;
         for (int row = 0; row < rows.size; row++) {
             boolean speaks = rows.counts(row, world.day) && !rows.isUnder(row, DRAWN);

@@ -11,6 +11,7 @@ public final class ImagesEdgesTest {
         undoOnTheLastDay();
         undoMakesRoom();
         undoOfRowsAndWords();
+        undoOfParties();
         undoOfBooks();
         tear();
         lookBeyond();
@@ -223,6 +224,27 @@ public final class ImagesEdgesTest {
         y.undo();
         Edge.due(y, "fits(0)", 0xFF);
         Edge.due(y, "stop(0, 3599)", 3599);
+    }
+
+    // Promise 52: "It becomes what was kept latest"
+    private static void undoOfParties() {
+        Due.promise(52);
+        // one that was going and is there now, one that was not and is going now
+        RiverHead x = Edge.after("goods(0, 9)", "go(0, 1)", "goods(4, 9)", "water(0, 50)", "tick(90)", "set(3, 5)", "goods(3, 2)",
+            "go(3, 6)", "goods(4, 9)", "image()");
+        Edge.on(x, "go(4, 47)", "tick(1)");
+        Edge.due(x, "party(3, 3)", -1);
+        Edge.due(x, "party(4, 3)", 47);
+        Edge.due(x, "party(1, 2)", 1);
+        Edge.due(x, "undo()", 90);
+        Edge.due(x, "party(0, 0)", 1);
+        Edge.due(x, "party(1, 2)", 0);
+        Edge.due(x, "party(3, 0)", 5);
+        Edge.due(x, "party(3, 1)", 2);
+        Edge.due(x, "party(3, 3)", 6);
+        Edge.due(x, "party(4, 0)", 0);
+        Edge.due(x, "party(4, 1)", 9);
+        Edge.due(x, "party(4, 3)", -1);
     }
 
     // Promise 52: "It becomes what was kept latest"

@@ -3,7 +3,11 @@ import java.lang.reflect.Modifier;
 import java.nio.file.Files;
 import java.nio.file.Path;
 import java.util.ArrayList;
+import java.util.HashMap;
 import java.util.List;
+import java.util.Map;
+import java.util.Set;
+import java.util.TreeSet;
 import java.util.regex.Matcher;
 import java.util.regex.Pattern;
 
@@ -15,6 +19,10 @@ public final class LanguageTest {
         "throw", "try", "catch", "synchronized", "assert", "import", "package", "Exact", "->", "::", "System\\.(?!arraycopy)",
         "Math\\.(?!abs|max|min)", "\\bnew \\w+\\(\\) \\{", "hashCode", "protected", "NaN", "float", "double", "Random"};
 
+    /** The names that a method's own lines call, and the names of all methods. */
+    private static final Map<String, Set<String>> CALLS = new HashMap<>();
+    private static final Set<String> METHODS = new TreeSet<>();
+
     public static void main(String[] args) throws IOException {
         String source = Files.readString(SOURCE);
         String code = source.replaceAll("(?s)/\\*.*?\\*/", "").replaceAll("//[^\n]*", "");
@@ -24,6 +32,7 @@ public final class LanguageTest {
         }
         Due.due("all signs are ASCII", source.chars().allMatch(c -> c < 128) ? 1 : 0, 1);
         methods(code);
+        callsAreShallow();
         face();
         faceAsTold();
         Due.end();
@@ -59,12 +68,41 @@ public final class LanguageTest {
                 continue;
             }
             n++;
+            METHODS.add(head.group(2));
             int end = code.indexOf("\n" + head.group(1) + "}\n", head.end());
             long lines = code.substring(head.start(), end).lines().count();
             Due.due(head.group(2) + " is short", lines <= 60 ? 1 : 0, 1);
             Due.due(head.group(2) + " has few parameters", head.group(3).split(",").length <= 7 ? 1 : 0, 1);
+            Matcher call = Pattern.compile("(\\w+)\\(").matcher(code.substring(head.end(), end));
+            while (call.find()) {
+                CALLS.computeIfAbsent(head.group(2), name -> new TreeSet<>()).add(call.group(1));
+            }
         }
         Due.due("methods were found", n > 150 ? 1 : 0, 1);
+    }
+
+    /** Rule 11, by names alone: methods of one name count as one, and a name below itself (takeFrom) is another's. */
+    private static void callsAreShallow() {
+        for (String name : CALLS.keySet()) {
+            List<String> chain = new ArrayList<>();
+            deepest(name, new ArrayList<>(), chain);
+            Due.due("calls from " + name + " go at most eight deep: " + chain, chain.size() <= 8 ? 1 : 0, 1);
+        }
+    }
+
+    private static void deepest(String name, List<String> above, List<String> chain) {
+        if (!METHODS.contains(name) || above.contains(name)) {
+            return;
+        }
+        above.add(name);
+        if (above.size() > chain.size()) {
+            chain.clear();
+            chain.addAll(above);
+        }
+        for (String next : CALLS.getOrDefault(name, Set.of())) {
+            deepest(next, above, chain);
+        }
+        above.remove(above.size() - 1);
     }
 
     private static void face() {

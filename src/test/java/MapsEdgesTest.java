@@ -159,6 +159,10 @@ public final class MapsEdgesTest {
         // on no map, and on one but borne out by a row of kind 0
         Edge.allRefused(Due.NONE, "shore(0)", "shore(22)", "shore(47)");
         Edge.refused(Due.NONE, "shore(20)", "row(2, 0, 0, 0)");
+        // the first row bears out as the last does
+        Edge.due(Edge.after("row(0, 0, 0, 0)", "row(1, 5, 2000, 0)"), "shore(20)", Due.NONE);
+        Edge.due(Edge.after(Edge.both(Edge.times(39, "row(1, 5, 2000, 0)"), "row(0, 0, 0, 0)")), "shore(20)", Due.NONE);
+        Edge.due(Edge.after(Edge.times(40, "row(1, 5, 2000, 0)")), "shore(20)", 0);
         Edge.refused(Due.NONE, "shore(20)", "strike(4, true)");
         Edge.taken(3, "shore(20)");
         Edge.taken(4, "shore(21)");

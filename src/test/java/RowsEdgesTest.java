@@ -408,6 +408,20 @@ public final class RowsEdgesTest {
         for (int row = 0; row < 4; row++) {
             Edge.due(x, "where(" + row + ", 0)", 0);
         }
+        // a march by each way: where it began lies the other way of where it ended
+        int[] start = {35, 26, 19, 28};
+        int[] end = {19, 28, 35, 26};
+        for (int way = 0; way < 4; way++) {
+            RiverHead y = Edge.after("high(" + end[way] + ", 4000)", "row(0, 0, 0, 0)", "row(0, 1, " + (100 * way + 2) + ", 0)",
+                "row(0, 2, 2, 0)");
+            Edge.due(y, "where(0, 0)", 1L << start[way]);
+            Edge.due(y, "where(1, 0)", 1L << end[way]);
+            Edge.due(y, "where(2, 0)", 1L << end[way]);
+        }
+        // any way of one step: around where it ended, as far as there are such
+        RiverHead z = Edge.after("high(47, 4000)", "row(0, 0, 0, 0)", "row(0, 1, 401, 0)", "row(0, 2, 2, 0)");
+        Edge.due(z, "where(0, 0)", Due.cells(39, 46, 47));
+        Edge.due(z, "where(1, 0)", Due.cells(47));
     }
 
     // Terms 2: "ROWS 0, 1, .. (at most 40), each in the book of a PARTY"

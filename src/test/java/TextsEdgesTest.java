@@ -171,6 +171,13 @@ public final class TextsEdgesTest {
         Edge.due(x, "text(0, 9)", 2);
         Edge.due(x, "why(1)", 20);
         Edge.due(x, "price(4)", 8);
+        // nor do its months stay for a clause without such, nor its clauses for a text of fewer
+        RiverHead y = Edge.after("<bar 1 in 5-6;pass 2 9;x", "text(0, 9)", "wipe()", "<bar 1");
+        Edge.due(y, "text(0, 9)", 0);
+        Edge.due(y, "why(1)", 0);
+        Edge.due(y, "why(2)", Due.NONE);
+        y.tick(359);
+        Edge.due(y, "why(1)", 0);
     }
 
     private static void fault(String marked) {
@@ -508,6 +515,13 @@ public final class TextsEdgesTest {
         Edge.due(y, "path(0, 2)", 0);
         Edge.due(y, "path(0, 1)", 2);
         Edge.due(y, "path(1, 0)", 1);
+        // a way of one king around the corner, beside shorter ones that cost
+        RiverHead corner = Edge.after("king(8, 1)", "king(0, 1)", "king(1, 1)", "king(2, 1)", "king(3, 1)");
+        Edge.due(corner, "path(8, 2)", 0);
+        Edge.due(corner, "path(8, 3)", 0);
+        Edge.due(corner, "path(3, 8)", 0);
+        Edge.due(corner, "path(8, 4)", 1);
+        Edge.due(corner, "path(9, 2)", 1);
         // the land does not wrap around
         RiverHead z = Edge.after("king(6, 1)", "king(15, 1)", "<bar 1", "text(0, 9)");
         Edge.due(z, "path(7, 8)", Due.NONE);
