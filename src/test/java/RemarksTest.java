@@ -3,6 +3,7 @@ import java.nio.file.DirectoryStream;
 import java.nio.file.Files;
 import java.nio.file.Path;
 import java.util.ArrayList;
+import java.util.Arrays;
 import java.util.HashMap;
 import java.util.List;
 import java.util.Map;
@@ -11,39 +12,39 @@ import java.util.regex.Matcher;
 import java.util.regex.Pattern;
 
 /**
- * The remarks of the tests of boundary cases: each quotes words that stand in the document where it says, each stands
- * ahead of a test that is run, and each sentence of a promise that names a finding is quoted by one.
+ * The remarks of the tests that go by sentences: each quotes words that stand in the document where it says, each stands
+ * ahead of a test that is run, and no word of a promise or of the terms is left that none of them quotes.
  */
 public final class RemarksTest {
     private static final Path DOCUMENT = Path.of("../shared/DOC.md");
     private static final Path TESTS = Path.of("src/test/java");
-    private static final Pattern REMARK = Pattern.compile("// (Promise|Terms) (\\d+): \"(.*)\"");
+    private static final String FILES = "{*EdgesTest,*SentencesTest,InterfaceTest}.java";
+    private static final Pattern REMARK = Pattern.compile("// (Promise \\d+|Terms \\d+|What it is|The public face): \"(.*)\"");
     private static final Pattern TEST = Pattern.compile(" {4}private static void (\\w+)\\(\\) \\{");
-    private static final Pattern FINDING = Pattern.compile("\\b(BEYOND|FULL|KIND|NONE|STATE|MISSING|SIZE)\\b");
     private static final int PROMISES = 55;
 
-    /** What the document says, by "Promise 7" or "Terms 2". */
+    /** What the document says, by "Promise 7", "Terms 2", or the head of another section. */
     private static final Map<String, String> SAID = new TreeMap<>();
     private static final Map<String, List<String>> QUOTED = new HashMap<>();
 
     public static void main(String[] args) throws IOException {
         readDocument(Files.readString(DOCUMENT));
-        try (DirectoryStream<Path> files = Files.newDirectoryStream(TESTS, "*EdgesTest.java")) {
+        try (DirectoryStream<Path> files = Files.newDirectoryStream(TESTS, FILES)) {
             for (Path file : files) {
                 readTests(file);
             }
         }
         for (int number = 1; number <= PROMISES; number++) {
-            promiseIsTested("Promise " + number);
+            isQuoted("Promise " + number);
         }
         for (int number = 0; number <= 6; number++) {
-            Due.due("Terms " + number + " is quoted", QUOTED.containsKey("Terms " + number) ? 1 : 0, 1);
+            isQuoted("Terms " + number);
         }
         Due.end();
     }
 
     private static String plain(String text) {
-        return text.replaceAll("```text", " ").replace("`", "").replaceAll("\\s+", " ").trim();
+        return text.replaceAll("```(text|java)", " ").replace("`", "").replaceAll("\\s+", " ").trim();
     }
 
     private static void readDocument(String document) {
@@ -55,6 +56,8 @@ public final class RemarksTest {
             } else if (head.startsWith("Promise ")) {
                 String said = part.substring(head.length()).replaceFirst("`[^`]*`:", "");
                 SAID.put(head.substring(0, head.indexOf(':')), plain(said));
+            } else {
+                SAID.put(head, plain(part.substring(head.length())));
             }
         }
         Due.due("promises of the document", SAID.keySet().stream().filter(s -> s.startsWith("Promise")).count(), PROMISES);
@@ -75,10 +78,10 @@ public final class RemarksTest {
             Matcher remark = REMARK.matcher(line.trim());
             Matcher test = TEST.matcher(line);
             if (remark.matches()) {
-                String where = remark.group(1) + " " + remark.group(2);
-                boolean stands = SAID.getOrDefault(where, "").contains(remark.group(3));
-                Due.due(file.getFileName() + ": " + where + " says \"" + remark.group(3) + "\"", stands ? 1 : 0, 1);
-                QUOTED.computeIfAbsent(where, w -> new ArrayList<>()).add(remark.group(3));
+                String where = remark.group(1);
+                boolean stands = SAID.getOrDefault(where, "").contains(remark.group(2));
+                Due.due(file.getFileName() + ": " + where + " says \"" + remark.group(2) + "\"", stands ? 1 : 0, 1);
+                QUOTED.computeIfAbsent(where, w -> new ArrayList<>()).add(remark.group(2));
                 remarked = true;
             } else if (test.matches()) {
                 String name = test.group(1);
@@ -89,31 +92,23 @@ public final class RemarksTest {
         }
     }
 
-    private static void promiseIsTested(String promise) {
-        List<String> quotes = QUOTED.getOrDefault(promise, List.of());
-        Due.due(promise + " is quoted", quotes.isEmpty() ? 0 : 1, 1);
-        for (String sentence : SAID.getOrDefault(promise, "").split("(?<=\\.) ")) {
-            if (FINDING.matcher(sentence).find()) {
-                boolean quoted = quotes.stream().anyMatch(quote -> quote.contains(sentence) || coveredBy(quotes, sentence));
-                Due.due(promise + ": a test quotes \"" + sentence + "\"", quoted ? 1 : 0, 1);
+    /** A sentence may be quoted in parts, by tests of each; what lies between the quotes has no letter and no digit. */
+    private static void isQuoted(String where) {
+        String said = SAID.getOrDefault(where, "");
+        Due.due(where + " says something", said.isEmpty() ? 0 : 1, 1);
+        boolean[] seen = new boolean[said.length()];
+        for (String quote : QUOTED.getOrDefault(where, List.of())) {
+            for (int at = said.indexOf(quote); at >= 0; at = said.indexOf(quote, at + 1)) {
+                Arrays.fill(seen, at, at + quote.length(), true);
             }
         }
-    }
-
-    /** A sentence of several cases may be quoted in parts, by tests of each: all its words are in one part or another. */
-    private static boolean coveredBy(List<String> quotes, String sentence) {
-        boolean[] seen = new boolean[sentence.length()];
-        for (String quote : quotes) {
-            int at = sentence.indexOf(quote);
-            for (int i = Math.max(at, 0); at >= 0 && i < at + quote.length(); i++) {
-                seen[i] = true;
-            }
-        }
+        StringBuilder left = new StringBuilder();
         for (int i = 0; i < seen.length; i++) {
-            if (!seen[i] && Character.isLetterOrDigit(sentence.charAt(i))) {
-                return false;
-            }
+            left.append(seen[i] ? ' ' : said.charAt(i));
         }
-        return true;
+        for (String words : left.toString().split(" {2,}")) {
+            boolean says = words.chars().anyMatch(Character::isLetterOrDigit);
+            Due.due(where + ": a test quotes \"" + words.trim() + "\"", says ? 0 : 1, 1);
+        }
     }
 }
